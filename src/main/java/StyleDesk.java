@@ -264,6 +264,7 @@ public final class StyleDesk {
         final int above;
         final int before;
         final int justBefore;
+        final int childNumber;
         final Style style;
         private int children;
         private int lastChild;
@@ -278,6 +279,7 @@ public final class StyleDesk {
             above = parent == null ? 0 : parent.above | parent.bit;
             before = parent == null ? 0 : parent.children;
             justBefore = parent == null ? 0 : parent.lastChild;
+            childNumber = Integer.bitCount(before) + 1;
             style = new Style();
             children = 0;
             lastChild = 0;
@@ -286,10 +288,6 @@ public final class StyleDesk {
         void adopt(int child) {
             children |= child;
             lastChild = child;
-        }
-
-        int childNumber() {
-            return Integer.bitCount(before) + 1;
         }
 
         boolean isLast() {
@@ -339,7 +337,7 @@ public final class StyleDesk {
                 case LAST:
                     return e.isLast();
                 default:
-                    return isReached(e.childNumber() - sought);
+                    return isReached(e.childNumber - sought);
             }
         }
 

@@ -22,6 +22,7 @@ public final class PromiseTest {
         putting();
         ruleAnswers();
         ruleTexts();
+        cutTexts();
         sumTexts();
         dropping();
         matchAnswers();
@@ -109,6 +110,8 @@ public final class PromiseTest {
         due("n 0", () -> d.put('a', 0), false);
         due("n 5", () -> d.put('a', 5), false);
         due("n -1", () -> d.put('a', -1), false);
+        due("n 5 of good bytes", () -> d.put(0x61616161, 5), false);
+        due("n 8 of good bytes", () -> d.put(0x61616161, 8), false);
         due("character 31", () -> d.put(31, 1), false);
         due("character 127", () -> d.put(127, 1), false);
         due("character 255", () -> d.put(-1, 1), false);
@@ -176,9 +179,14 @@ public final class PromiseTest {
             ":x(a){$d:1}", "a,b,c{c:1}", "a b>c+d{c:1}", "a~b{c:1}", "a{c:1;c:2;c:3;c:4}",
             "a{c:inherit}", "a{c:initial}", "a{c:inherit!}", "a{c:initial!;f:1}", "a{$b:inherit}",
             "a#x.a:f:l{c:1}", "*.a.b.c.d{c:1}", ".a.b.c.d{c:1}", "a{c:1!;c:2!}",
-            "a:x(b.a.b.c.d):x(c):x(d):x(*){c:1}"};
+            "a:x(b.a.b.c.d):x(c):x(d):x(*){c:1}", "a b:x(c)>d:x(#e){c:1}"};
         for (String text : good) {
-            due("rule " + text, () -> rule(new StyleDesk(), 1, text), 0);
+            StyleDesk d = new StyleDesk();
+            due("rule " + text, () -> rule(d, 1, text), 0);
+            for (int end = 0; end < text.length(); end++) {
+                String cut = text.substring(0, end);
+                due("cut to " + cut, () -> rule(d, 1, cut), ARGUMENT);
+            }
         }
         String[] bad = {
             "{c:1}", "a", "a{", "a{}", "a{c}", "a{c:}", "a{c:1", "a{c:1}}", "a{c:1} ", " a{c:1}",
@@ -206,6 +214,41 @@ public final class PromiseTest {
         due("its sum", () -> d.value(0, Z), 98f);
     }
 
+    /** Texts that fill the buffer and end where more is looked for. */
+    private static void cutTexts() {
+        String[] tails = {
+            "$", "$a+", "1.", "1*", "-", "(", "(1", "1", "1p", "1;", "1;c", "1;c:", "1;c:inheri",
+            "1;c:initia", "1;c:i", "1;c:inherit", "1;c:initial", "1;c:1!", "1;$", "1;c:$"};
+        for (String tail : tails) {
+            StringBuilder text = new StringBuilder("a{z:");
+            while (text.length() + tail.length() < 120) {
+                text.append(text.length() % 2 == 0 ? '1' : '+');
+            }
+            int last = text.length() - 1;
+            if (text.charAt(last) == '1') {
+                text.setCharAt(last - 1, '1');
+                text.setCharAt(last, '+');
+            }
+            due("length with " + tail, () -> text.length() + tail.length(), 120);
+            due("full, cut at " + tail, () -> rule(tree(), 0, text + tail), ARGUMENT);
+        }
+        String numbers = ":n(1n+1):n(1n+1):n(1n+1):n(1n+1)";
+        String front = "a" + numbers + ">a" + numbers + ">a" + numbers + ">";
+        String[] ends = {
+            "a:n(1n+1):n(1n+1)#", "a:n(1n+1):n(1n+1).", "a:n(1n+1):n(1n+1):",
+            ":n(1n+1):n(1n+1):n", ":n(1n+1):n(1n+1):x", "a:n(1n+1).a.a.a:x(",
+            "a:n(1n+1).a.a:x(a)", "a:n(1n+1).a.a:x(.a", "a:n(1n+1).a.a.a:n(", ":n(1n+1).a.a.a:n(1",
+            "a:n(1n+1).a.a:n(1n", "a:n(1n+1).a.a:n(n+", "a:n(1n+1).a:n(1n+1", "a:n(1n+1).a:n(1n-1",
+            "a:n(1n+1).a.a.a.a,", "a:n(1n+1).a.a.a.a>", "a:n(1n+1).a.a.a.a{"};
+        for (String end : ends) {
+            boolean good = end.endsWith(":x(a)");
+            due("length of " + end, () -> front.length() + end.length(), 120);
+            due("full, cut at " + end, () -> matches(tree(), front + end, 0),
+                    good ? (Object) false : ARGUMENT);
+            due("no rule, cut at " + end, () -> rule(tree(), 0, front + end), ARGUMENT);
+        }
+    }
+
     private static void sumTexts() {
         String[] good = {
             "0", "9", "99", "999", "0.1", "999.9", "000", "1p", "1e", "1%", "1.5p", "1.5e", "1.5%",
@@ -221,7 +264,7 @@ public final class PromiseTest {
             "(", ")", "()", "(1", "1)", "((1)", "(1))", "(1)2", "1(2)", "1 +1", "1+ 1", "$",
             "$e", "$1", "$aa", "$$a", "$ap", "a", "1a", "-------1", "(((((((1)))))))",
             "-(-(-(-1)))" + "-", "-(-(-(-(1))))-(", "-(-(-(-1)+(-1)+(1)+((1))))", "1;", "1!1",
-            "1e5", "1,5", "x", "- 1", "-(((((-1)))))"};
+            "1e5", "1,5", "x", "- 1", "-(((((-1)))))", "((((((()))))))", "-------", "-------+1"};
         for (String text : bad) {
             due("sum " + text, () -> rule(new StyleDesk(), 1, "a{w:" + text + "}"), ARGUMENT);
         }
@@ -392,6 +435,8 @@ public final class PromiseTest {
         matched("#x~*", "234");
         matched("#x+*", "2");
         matched("a+a", "");
+        matched("a+b", "");
+        matched("a~b", "");
         matched("a~a", "");
         matched("* *", "1234567");
         matched("*>*>*", "567");
@@ -906,6 +951,25 @@ public final class PromiseTest {
         due("how", () -> d.how(23, Z), 2);
         due("a wide circle", () -> d.how(23, W), 3);
         due("beside it", () -> d.value(23, H), 1f);
+
+        StyleDesk most = new StyleDesk();
+        most.element(-1, 'r', 0, 0);
+        for (int i = 1; i < 24; i++) {
+            most.element(i - 1, 'd' - i % 4, 0, 0);
+        }
+        rule(most, 0, "r{$a:7;$b:7;$c:7;$d:7}");
+        rule(most, 0, "a{$a:$b;$b:$c;$c:$d;z:$a+1}");
+        rule(most, 0, "b{$d:$a;$a:$b;$b:$c}");
+        rule(most, 0, "c{$c:$d;$d:$a;$a:$b}");
+        rule(most, 0, "d{$b:$c;$c:$d;$d:$a}");
+        due("70 names that need one another", () -> most.value(23, Z), 8f);
+        due("it is a sum", () -> most.how(23, Z), 2);
+        rule(most, 0, "r{$a:$b}");
+        rule(most, 0, "r{$b:$c}");
+        rule(most, 0, "r{$c:$d}");
+        due("73 of them", () -> most.value(23, Z), 8f);
+        rule(most, 0, "r{$d:$a}");
+        due("a circle at the end", () -> most.how(23, Z), 3);
     }
 
     // What the tests ask with
