@@ -255,7 +255,6 @@ public final class StyleDesk {
 
     /** An element, with the sets of elements that a selector can ask it for. */
     private static final class Element {
-        final int number;
         final Element parent;
         final int tag;
         final int id;
@@ -270,7 +269,6 @@ public final class StyleDesk {
         private int lastChild;
 
         Element(int number, Element parent, int tag, int id, int classes) {
-            this.number = number;
             this.parent = parent;
             this.tag = tag;
             this.id = id;
