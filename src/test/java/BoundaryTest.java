@@ -73,6 +73,7 @@ public final class BoundaryTest {
         putCalls();
         putFull();
         ruleCalls();
+        ruleLeftovers();
         ruleRefused();
         dropCalls();
         matchesCalls();
@@ -668,6 +669,10 @@ public final class BoundaryTest {
             refusedRule("a{c:" + word + "+1}");
             refusedRule("a{c:1+" + word + "}");
             refusedRule("a{c:" + word.toUpperCase() + "}");
+            for (int i = 0; i < word.length(); i++) {
+                refusedRule("a{c:" + word.substring(0, i) + "x" + word.substring(i + 1) + "}");
+                refusedRule("a{c:" + word.substring(0, i) + word.substring(i + 1) + "}");
+            }
         }
 
         says("products with + or - between; a PRODUCT: factors with * or / between");
@@ -755,11 +760,18 @@ public final class BoundaryTest {
                     rule(new StyleDesk(), 0, "a{z:" + six + "*" + six + "}"), 0);
             refusedRule("a{z:" + six + "*" + seven + "}");
             refusedRule("a{z:1+" + sevenToo + "}");
+            refusedRule("a{z:" + nested(bits, 6, "") + "}");
+            refusedRule("a{z:" + nested(bits, 6, "-") + "}");
+            refusedRule("a{z:" + nested(bits, 6, "()") + "}");
         }
         due("six around a name", () -> rule(new StyleDesk(), 0, "a{z:-(-(-($a)))}"), 0);
         refusedRule("a{z:(-(-(-($a))))}");
         due("a sum at the bottom", () -> value("a{z:((((((1+2*3-4/2))))))}", Z), 5f);
         refusedRule("a{z:((((((1+2*(3)-4/2))))))}");
+        due("all that waits at each depth", () ->
+                value("a{z:1+2*(1+2*(1+2*(1+2*(1+2*(1+2*(1+2*3))))))}", Z), 511f);
+        due("all that waits, from the right", () ->
+                value("a{z:9-8/(9-8/(9-8/(9-8/(9-8/(9-8/(9-8/8))))))}", Z), 8f);
         due("named values do not count", () ->
                 value("a{$a:((((((2))))));$b:------$a;$c:(((((($b))))));z:------$c}", Z), 2f);
     }
@@ -1160,6 +1172,20 @@ public final class BoundaryTest {
         due("the winner says inherit", () -> d.value(23, Z), 4f);
         due("a child's is not seen", () -> value("a{z:$a}", Z), 0f);
 
+        StyleDesk most = new StyleDesk();
+        most.element(-1, 'r', 0, 0);
+        for (int i = 1; i < 24; i++) {
+            most.element(i - 1, 'd' - i % 4, 0, 0);
+        }
+        rule(most, 0, "r{$a:$b;$b:$c;$c:$d;$d:7}");
+        rule(most, 0, "a{$a:$b;$b:$c;$c:$d;z:$a+1}");
+        rule(most, 0, "b{$d:$a;$a:$b;$b:$c}");
+        rule(most, 0, "c{$c:$d;$d:$a;$a:$b}");
+        rule(most, 0, "d{$b:$c;$c:$d;$d:$a}");
+        due("73 names that need one another", () -> most.value(23, Z), 8f);
+        rule(most, 0, "r{$d:$a}");
+        due("a circle behind 73", () -> most.how(23, Z), 3);
+
         says("without a winner, or for initial: BROKEN");
         for (String name : new String[] {"$a", "$b", "$c", "$d"}) {
             due("without " + name, () -> how("a{z:" + name + "}", Z), 3);
@@ -1437,6 +1463,65 @@ public final class BoundaryTest {
         unchanged("full and wrong", r, x -> rule(x, 2, "r".repeat(120)), ARGUMENT);
         String open = full.replace("!}", "+1");
         unchanged("full, and nothing ends it", r, x -> rule(x, 2, open), ARGUMENT);
+    }
+
+    /** A text that ends too soon is not ended by what an earlier one left, nor read beyond 120. */
+    private static void ruleLeftovers() {
+        says("The buffer, which is empty afterwards always");
+        String[] texts = {
+            "a#x.a:f:n(1n+1)>*:x(b.c:n(2)):l{c:-1.5p*(2+$a)!;$b:inherit;f:initial!;w:1e/3%}",
+            ":n(3n-2),b c+d~e{$d:12.5;z:inherit}", "*{h:initial}", ".a:x(#c){m:-((123.4e))}"};
+        for (String text : texts) {
+            for (int end = 0; end < text.length(); end++) {
+                String cut = text.substring(0, end);
+                StyleDesk d = tree();
+                due("whole", () -> rule(d, 0, text), 0);
+                due("cut to " + cut, () -> rule(d, 0, cut), ARGUMENT);
+                due("full, cut to " + cut, () -> rule(d, 0, filled(cut)), ARGUMENT);
+                due("whole again", () -> rule(d, 0, text), 1);
+            }
+            String selectors = text.substring(0, text.indexOf('{'));
+            for (int end = 0; end <= selectors.length(); end++) {
+                String cut = text.substring(0, end);
+                StyleDesk d = tree();
+                Object due = answer(() -> matches(tree(), cut, 1));
+                due("whole", () -> matches(d, selectors + ",*", 1), true);
+                due("cut to " + cut, () -> matches(d, cut, 1), due);
+                due("full, cut to " + cut, () -> matches(d, filled(cut), 1), due);
+                due("whole again", () -> matches(d, selectors + ",*", 1), true);
+            }
+        }
+    }
+
+    /** 120 characters: a selector that matches nothing in tree, a comma, and this at the end. */
+    private static String filled(String text) {
+        int length = 119 - text.length();
+        StringBuilder s = new StringBuilder();
+        while (length > 33) {
+            int here = length == 34 ? 32 : 33;
+            s.append(unmatched(here)).append('>');
+            length -= here + 1;
+        }
+        s.append(unmatched(length)).append(',').append(text);
+        if (s.length() != 120) {
+            throw new AssertionError("not 120: " + s);
+        }
+        return s.toString();
+    }
+
+    /** A compound of 1 to 33 characters. */
+    private static String unmatched(int length) {
+        String[] parts = {"", "#q", ":n(1)", ":n(1n)", ":x(z#q)", ":n(1n-0)"};
+        for (int i = 0; i < 1296; i++) {
+            String text = parts[i % 6] + parts[i / 6 % 6] + parts[i / 36 % 6] + parts[i / 216];
+            if (text.length() + 1 == length) {
+                return "z" + text;
+            }
+        }
+        if (length == 2 || length == 4) {
+            return "#q#q".substring(0, length);
+        }
+        throw new AssertionError("no compound of " + length);
     }
 
     private static void ruleRefused() {
@@ -1890,12 +1975,7 @@ public final class BoundaryTest {
     }
 
     private static void due(String what, Call call, Object due) {
-        Object got;
-        try {
-            got = call.run();
-        } catch (RuntimeException | AssertionError e) {
-            got = e.getClass().getSimpleName();
-        }
+        Object got = answer(call);
         asked++;
         askedOfSentence++;
         boolean floats = got instanceof Float && due instanceof Float;
@@ -1903,6 +1983,14 @@ public final class BoundaryTest {
         if (!same) {
             wrong++;
             System.out.println("[" + sentence + "] " + what + ": " + got + ", due is " + due);
+        }
+    }
+
+    private static Object answer(Call call) {
+        try {
+            return call.run();
+        } catch (RuntimeException e) {
+            return e.getClass().getSimpleName();
         }
     }
 }
