@@ -1852,13 +1852,15 @@ public final class BoundaryTest {
 
     /** What can be asked of a desk without a change, in so few calls that 512 hold it. */
     private static String state(StyleDesk d) {
+        int elements = d.count(0);
+        int rules = d.count(1);
         StringBuilder s = new StringBuilder();
-        s.append(d.count(0)).append(' ').append(d.count(1)).append(' ').append(d.count(2));
-        for (int e = 0; e < d.count(0); e++) {
+        s.append(elements).append(' ').append(rules).append(' ').append(d.count(2));
+        for (int e = 0; e < elements; e++) {
             for (int p = 0; p < 6; p++) {
                 s.append(' ').append(d.value(e, p)).append(' ').append(d.how(e, p));
             }
-            for (int k = 0; k < d.count(1) && k < 4; k++) {
+            for (int k = 0; k < rules && k < 4; k++) {
                 s.append(' ').append(d.weight(k, e));
             }
             s.append(' ').append(d.winner(e, e % 10));
